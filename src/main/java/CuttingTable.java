@@ -1,5 +1,3 @@
-import java.util.Arrays;
-
 /** A cutting table for films. What each call promises stands in the document, ../shared/DOC.md. */
 public final class CuttingTable {
     public static final int NONE = -1;
@@ -168,7 +166,7 @@ public final class CuttingTable {
         long[] frames = spindles[spindle].frames;
         int moved = frames.length - at - n;
         System.arraycopy(frames, at, frames, at + n, moved);
-        Arrays.fill(frames, at, at + n, BLANK);
+        blankFrames(frames, at, at + n);
         emptyBin();
         return moved;
     }
@@ -181,7 +179,7 @@ public final class CuttingTable {
         long[] frames = spindles[spindle].frames;
         int moved = frames.length - at - n;
         System.arraycopy(frames, at + n, frames, at, moved);
-        Arrays.fill(frames, at + moved, frames.length, BLANK);
+        blankFrames(frames, at + moved, frames.length);
         emptyBin();
         return moved;
     }
@@ -437,6 +435,12 @@ public final class CuttingTable {
             going++;
         }
         return going;
+    }
+
+    private static void blankFrames(long[] frames, int from, int end) {
+        for (int i = from; i < end; i++) {
+            frames[i] = BLANK;
+        }
     }
 
     private void fillBin(Load reel, int place, int n) {
