@@ -73,21 +73,24 @@ public final class EdgesOfAnswersTest {
         }
     }
 
-    /** Each of the twelve calls, refused and not, behind an OUT and behind a MISFIT. */
+    /** A table whose latest call was an OUT, or a MISFIT behind a frame that went. */
+    private static CuttingTable refusedTable(boolean out) {
+        CuttingTable x = table();
+        Due.threadShots(x, 4, 5, 3, 0);
+        x.splice(4, 0, 2, 0, out ? 3 : 2);
+        Due.refusal("the latest call", x, out ? 4 : 5, out ? 4 : 0, out ? 0 : 1);
+        return x;
+    }
+
     private static void refusalOfTheLatestCall() {
-        Due.sentence("Of the latest call of thread(), tag(), share(), copy(), clear(), put(), shoot(), splice(), open(),"
-            + " close(), loop() or play(): its refusal, 0 without one");
+        Due.sentence("Of the latest call of thread(), tag(), share(), copy(), clear(), put(), shoot(), splice(),"
+            + " open(), close(), loop() or play(): its refusal, 0 without one");
         for (int which = 0; which < 12; which++) {
-            for (int ahead = 0; ahead < 2; ahead++) {
-                CuttingTable x = table();
-                x.splice(0, ahead == 0 ? 9 : 0, 0, 0, 1);
-                Due.is("ahead of call " + which, x.refusal(0), ahead == 0 ? 4 : 0);
+            for (boolean out : new boolean[] {true, false}) {
+                CuttingTable x = refusedTable(out);
                 call(x, which, false);
                 Due.refusal("call " + which + ", refused", x, 6, 0, 0);
-                x = table();
-                x.splice(1, 1, 2, 0, 1);
-                x.splice(ahead == 0 ? 0 : 1, 0, ahead == 0 ? 0 : 2, 0, 3 - ahead);
-                Due.refusal("ahead of call " + which, x, ahead == 0 ? 4 : 5, ahead == 0 ? 4 : 0, 0);
+                x = refusedTable(out);
                 call(x, which, true);
                 Due.refusal("call " + which + ", not refused", x, 0, 0, 0);
             }
@@ -488,8 +491,8 @@ public final class EdgesOfAnswersTest {
     }
 
     private static void countOfShots() {
-        Due.sentence("5 shots that were made (also by a shoot() that is OUT or a MISFIT; by none that is refused ahead of"
-            + " these)");
+        Due.sentence("5 shots that were made (also by a shoot() that is OUT or a MISFIT; by none that is refused ahead"
+            + " of these)");
         for (int kind = 0; kind < 4; kind++) {
             CuttingTable x = table();
             int made = kind < 3 ? 1 : 0;

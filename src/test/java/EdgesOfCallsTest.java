@@ -83,7 +83,8 @@ public final class EdgesOfCallsTest {
                     Due.refusal(call, x, 0, 0, 0);
                     Due.is(call + ": look(0, 1)", x.look(0, 1), frames);
                     for (int i = 0; i < frames; i++) {
-                        Due.is(call + ": at(0, " + i + ")", x.at(0, i), i < at ? 100 + i : i < at + n ? 0 : 100 + i - n);
+                        Due.is(call + ": at(0, " + i + ")", x.at(0, i),
+                            i < at ? 100 + i : i < at + n ? 0 : 100 + i - n);
                     }
                 }
             }

@@ -122,7 +122,8 @@ public final class RefusalsTest {
                 x.thread(1, to, 3);
                 boolean is = from != to && (from <= 4 || to <= 4);
                 for (int n = 0; n < 4; n++) {
-                    Due.is("splice of " + n + " from stock " + from + " to " + to, x.splice(0, 0, 1, 0, n), is ? -3 : n);
+                    Due.is("splice of " + n + " from stock " + from + " to " + to, x.splice(0, 0, 1, 0, n),
+                        is ? -3 : n);
                 }
                 Due.is("splice, OUT, from stock " + from + " to " + to, x.splice(0, 0, 1, 0, 4), is ? -3 : -4);
                 Due.is("splice, OUT, from stock " + from + " to " + to, x.splice(0, -1, 1, 0, 0), is ? -3 : -4);
